@@ -15,6 +15,8 @@ public final class FaceTest {
     private static final String[] CONSTANTS = {
         "BAD=-1", "NOT=-2", "FULL=-3", "NONE=-4", "NULL=-11", "CAST=-12", "INDEX=-13", "SIZE=-14"};
 
+    private static final int MOST_CLASSES = 12, MOST_FIELDS = 20;
+
     private static int wrong = 0;
 
     private static void due(String what, Object got, Object want) {
@@ -32,7 +34,10 @@ public final class FaceTest {
         Constructor<?>[] constructors = face.getDeclaredConstructors();
         due("constructors", constructors.length, 1);
         due("constructor", constructors[0].toString(), "public ForgettingLines()");
+        due("few classes", face.getDeclaredClasses().length < MOST_CLASSES, true);
+        fewFields(face);
         for (Class<?> inside : face.getDeclaredClasses()) {
+            fewFields(inside);
             int modifiers = inside.getModifiers();
             due(inside + " is static", Modifier.isStatic(modifiers), true);
             due(inside + " is open", Modifier.isPublic(modifiers) || Modifier.isProtected(modifiers), false);
@@ -41,6 +46,18 @@ public final class FaceTest {
         if (wrong != 0) {
             System.exit(1);
         }
+    }
+
+    private static void fewFields(Class<?> type) {
+        int fields = 0;
+        for (Field field : type.getDeclaredFields()) {
+            if (Modifier.isStatic(field.getModifiers())) {
+                due(field + " is final", Modifier.isFinal(field.getModifiers()), true);
+            } else {
+                fields++;
+            }
+        }
+        due("few fields of " + type, fields <= MOST_FIELDS, true);
     }
 
     private static Set<String> methods(Class<?> face) {
