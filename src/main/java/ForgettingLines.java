@@ -162,7 +162,7 @@ public final class ForgettingLines {
         if (word == Words.CANNOT) {
             return NOT;
         }
-        if (Words.size(word) > MOST_LETTERS) {
+        if (Words.isLonger(word, MOST_LETTERS)) {
             return FULL;
         }
         here.words[line] = word;
@@ -286,7 +286,7 @@ public final class ForgettingLines {
         if (l < 0 || l > MOST_STRICT) {
             return BAD;
         }
-        if (here.longest() > l || target.longest() > l) {
+        if (here.isLonger(l) || target.isLonger(l)) {
             return NOT;
         }
         return walk.fewest(machine, here, target, l);
@@ -368,6 +368,10 @@ public final class ForgettingLines {
             return size;
         }
 
+        static boolean isLonger(int word, int most) {
+            return word >>> (2 * most) != 0;
+        }
+
         static int at(int word, int i) {
             return (word >>> (2 * i) & 3) - 1;
         }
@@ -429,8 +433,8 @@ public final class ForgettingLines {
             words[1] = 0;
         }
 
-        int longest() {
-            return Math.max(Words.size(words[0]), Words.size(words[1]));
+        boolean isLonger(int most) {
+            return Words.isLonger(words[0], most) || Words.isLonger(words[1], most);
         }
     }
 
@@ -636,7 +640,7 @@ public final class ForgettingLines {
             count = 0;
             spent = false;
             add(target.state, target.words[0], target.words[1], NO_ORIGIN, NO_ORIGIN);
-            for (int k = 0; k < count && !spent; k++) {
+            for (int k = 0; k < MOST_FOUND && k < count && !spent; k++) {
                 for (int arc = 0; arc < machine.count && !spent; arc++) {
                     if (machine.part(arc, TO) == states[k]) {
                         lookAhead(machine, arc, k);
@@ -653,7 +657,7 @@ public final class ForgettingLines {
             if (firstBelow(state, word0, word1) >= 0) {
                 return;
             }
-            if (count >= MOST_FOUND || Words.size(word0) > MOST_LETTERS || Words.size(word1) > MOST_LETTERS) {
+            if (count >= MOST_FOUND || Words.isLonger(word0, MOST_LETTERS) || Words.isLonger(word1, MOST_LETTERS)) {
                 spent = true;
                 return;
             }
@@ -804,7 +808,7 @@ public final class ForgettingLines {
         private void goBy(Machine machine, int arc, int code, int l) {
             int line = machine.part(arc, LINE);
             int word = machine.wordBehind(arc, wordOf(code, line));
-            if (word == Words.CANNOT || Words.size(word) > l) {
+            if (word == Words.CANNOT || Words.isLonger(word, l)) {
                 return;
             }
             int to = machine.part(arc, TO);

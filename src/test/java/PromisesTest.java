@@ -616,6 +616,14 @@ public final class PromisesTest {
         held.aim(1);
         wantAll(held, 0, "aaaaaaaaaa");
         due("an 11th letter that would not be found", held.found(), 2);
+        ForgettingLines other = machine(2, "0?a11");
+        other.aim(1);
+        wantAll(other, 1, "aaaaaaaaa");
+        due("nine wanted on line 1", other.found(), 2);
+        other.want(1, 0);
+        due("ten wanted on line 1", other.found(), FULL);
+        other.aim(1);
+        due("none wanted", other.found(), 2);
         foundEighty();
         foundSent();
     }
@@ -627,14 +635,17 @@ public final class PromisesTest {
         due("the 80th", x.about(79, 0), 7);
         due("the 81st", x.about(80, 0), BAD);
         x.want(0, 0);
-        due("81 and more", x.found(), FULL);
-        ForgettingLines one = machine(8, "1-0;2-1;3-2;4-3;5-4;6-5;7-6;0!a00");
-        wantAll(one, 0, "aaaaaaaaa");
-        one.arc(0, 0, 0, 0, 0);
-        due("80, and an arc that finds none", one.found(), 80);
-        one.unarc();
-        one.arc(7, 2, 1, 0, 0);
-        due("81 with one that is not least", one.found(), FULL);
+        due("88", x.found(), FULL);
+        ForgettingLines both = machine(1, "0!a00;0!a10;0-0");
+        wantAll(both, 0, "aaaaaaaaa");
+        wantAll(both, 1, "aaaaaaa");
+        due("10 times 8", both.found(), 80);
+        both.aim(0);
+        wantAll(both, 0, "aaaaaaaa");
+        wantAll(both, 1, "aaaaaaaa");
+        due("9 times 9", both.found(), FULL);
+        both.aim(0);
+        due("spent no more", both.found(), 1);
     }
 
     private static void foundSent() {
@@ -701,6 +712,10 @@ public final class PromisesTest {
             due("line", x.letter(1, v, 0), BAD);
             due("i", x.letter(1, 0, v), BAD);
         }
+        x.want(0, 0);
+        x.aim(0);
+        due("k 1 of a search that finds less than the one before", x.letter(1, 0, 0), BAD);
+        due("k 80 of 80", manyFound("aaaaaaaaa").letter(80, 0, 0), BAD);
         for (ForgettingLines spent : new ForgettingLines[] {tooLong(), tooMany()}) {
             due("spent", spent.letter(0, 0, 0), FULL);
             due("spent, any k and i", spent.letter(Integer.MAX_VALUE, 1, Integer.MAX_VALUE), FULL);
@@ -836,6 +851,35 @@ public final class PromisesTest {
         order.reset();
         due("from the start", order.strict(2), 5);
         due("in a bag of one", order.strict(1), NONE);
+        ForgettingLines gone = machine(2, "0-0;0-1");
+        gone.aim(1);
+        due("by the latest arc", gone.strict(0), 1);
+        gone.unarc();
+        due("which goes", gone.strict(0), NONE);
+        for (int arc = 1; arc < 20; arc++) {
+            gone.arc(0, 0, 0, 0, arc / 19);
+        }
+        due("by the 20th arc", gone.strict(0), 1);
+        strictEverywhere();
+    }
+
+    /** Every place of seven states, and then of eight, can be come to. */
+    private static void strictEverywhere() {
+        String all = "0!a00;0!b00;0!c00;0!a10;0!b10;0!c10;0?a00;0?b00;0?c00;0?a10;0?b10;0?c10";
+        ForgettingLines x = machine(8, all + ";0-1;1-2;2-3;3-4;4-5;5-6;6-0");
+        x.aim(7);
+        due("but the eighth state can't", x.strict(3), NONE);
+        x.arc(6, 0, 0, 0, 7);
+        due("now it can", x.strict(0), 7);
+        wantAll(x, 0, "cab");
+        wantAll(x, 1, "bac");
+        due("with three letters each", x.strict(3), 13);
+        x.bag(0, true);
+        x.bag(1, true);
+        x.aim(7);
+        wantAll(x, 0, "cab");
+        wantAll(x, 1, "bac");
+        due("with bags", x.strict(3), 13);
     }
 
     private static void sheet() {
