@@ -63,7 +63,9 @@ public final class BoundariesTest {
 
     static void promise1_objectsHaveNothingInCommon() {
         Lines x = Twins.full();
-        Suite.due("everything of a new one", new Lines().everything(), new Lines().everything());
+        due("now of a new one", new Lines().place(), "0  ");
+        due("the aim of a new one", new Lines().foundPlace(0), "0   round 0");
+        due("the bag of a new one", new Lines().bag(1, false), 0);
         due("arcs of a new one", new Lines().countArcs(), 0);
         due("bytes of a new one", new Lines().type('0', 1), 1);
         due("sheet of a new one", new Lines().drop(0), NULL);
