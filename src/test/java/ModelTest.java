@@ -11,11 +11,11 @@ import java.util.Set;
 import java.util.TreeMap;
 
 /**
- * Long runs of calls on fresh objects, each answer held against a second model of the document, which is written
- * for plainness alone: words are texts, and everything is worked out anew in each call. It also goes THE WAYS.
+ * Runs of as many calls as an object is used for, each answer held against a second model of the document, which is
+ * written for plainness alone: words are texts, and everything is worked out anew in each call. It also goes THE WAYS.
  */
 public final class ModelTest {
-    private static final int RUNS = 3000, CALLS = 300;
+    private static final int RUNS = 2000;
     private static final int BAD = -1, NOT = -2, FULL = -3, NONE = -4, NULL = -11, CAST = -12, INDEX = -13, SIZE = -14;
 
     private record Place(int state, String word0, String word1) {
@@ -518,7 +518,7 @@ public final class ModelTest {
     /** One run: calls are made up, made on both, and their answers held against one another. */
     private static final class Run {
         final Random random;
-        final ForgettingLines x = new ForgettingLines();
+        final Lines x = new Lines();
         final Model model = new Model();
         final List<String> told = new ArrayList<>();
         /** In a calm run the machine seldom changes, so that now and the aim come far. */
@@ -555,13 +555,17 @@ public final class ModelTest {
             if (calm || below(3) > 0) {
                 machine();
             }
-            for (int i = 0; i < CALLS && right; i++) {
+            while (right && canCall(1)) {
                 call(calm && below(20) > 0 ? 15 + below(63) : below(100));
             }
             if (!right) {
                 told.subList(0, Math.max(0, told.size() - 60)).clear();
                 told.forEach(System.out::println);
             }
+        }
+
+        private boolean canCall(int times) {
+            return x.calls() + times <= Lines.MOST_CALLS;
         }
 
         private void machine() {
@@ -642,13 +646,13 @@ public final class ModelTest {
                 text.setCharAt(below(text.length()), " ;-!?abcd0123456789~".charAt(below(20)));
             }
             typeAll(text.toString());
-            if (below(8) > 0) {
+            if (below(8) > 0 && canCall(1)) {
                 same("read()", x.read(), model.read());
             }
         }
 
         private void typeAll(String text) {
-            for (int i = 0; i < text.length(); ) {
+            for (int i = 0; i < text.length() && canCall(1); ) {
                 int n = 1 + below(8);
                 long w = random.nextLong();
                 for (int j = 0; j < n; j++) {
@@ -715,7 +719,7 @@ public final class ModelTest {
         }
 
         private void callWants() {
-            for (int i = below(10) == 0 ? below(12) : 1; i > 0; i--) {
+            for (int i = below(10) == 0 ? below(12) : 1; i > 0 && canCall(1); i--) {
                 int line = near(2);
                 int letter = near(3);
                 same("want(" + line + "," + letter + ")", x.want(line, letter), model.want(line, letter));
@@ -737,15 +741,17 @@ public final class ModelTest {
 
         /** By all that can be LOST before and behind each ARC, a place that the aim is BELOW must be come to. */
         private void goTheWay() {
-            int far = x.far();
-            if (far < 0 || far > 10) {
+            int far = model.far();
+            if (far < 0 || far > 10 || !canCall(far)) {
                 return;
             }
             Set<Place> at = withLost(Set.of(model.now));
-            for (int i = 0; i < far; i++) {
+            for (int i = 0; i < far && right; i++) {
+                int arc = model.way(i);
+                same("way(" + i + ")", x.way(i), arc);
                 Set<Place> next = new HashSet<>();
                 for (Place place : at) {
-                    Place behind = model.behind(place, model.arcs.get(x.way(i)));
+                    Place behind = model.behind(place, model.arcs.get(arc));
                     if (behind != null) {
                         next.add(behind);
                     }

@@ -3,8 +3,9 @@ import java.lang.management.ManagementFactory;
 /** All calls of one run live in one room, so that no call may make objects, and a new object is to be small. */
 public final class RoomTest {
     /** What a measure itself, or a class that is loaded meanwhile, may take. */
-    private static final long SLACK_BYTES = 20_000;
+    private static final long SLACK_BYTES = 10_000;
     private static final long MOST_NEW_BYTES = 100_000;
+    private static final int TIMES = 20, OBJECTS = 100;
 
     private static final com.sun.management.ThreadMXBean THREADS =
         (com.sun.management.ThreadMXBean) ManagementFactory.getThreadMXBean();
@@ -44,21 +45,33 @@ public final class RoomTest {
         }
     }
 
-    public static void main(String[] args) {
-        ForgettingLines first = new ForgettingLines();
-        fill(first);
-        for (int i = 0; i < 40; i++) {
-            callAll(first, i);
+    private static ForgettingLines filled() {
+        ForgettingLines x = new ForgettingLines();
+        fill(x);
+        return x;
+    }
+
+    /** Nearly as many calls as an object is used for. */
+    private static void use(ForgettingLines x) {
+        for (int i = 0; i < TIMES; i++) {
+            callAll(x, i);
         }
+    }
+
+    public static void main(String[] args) {
+        use(filled());
         long before = bytes();
         ForgettingLines x = new ForgettingLines();
         due("a new object", bytes() - before, MOST_NEW_BYTES);
         fill(x);
-        before = bytes();
-        for (int i = 0; i < 512; i++) {
-            callAll(x, i);
+        long taken = 0;
+        for (int objects = 0; objects < OBJECTS; objects++) {
+            before = bytes();
+            use(x);
+            taken += bytes() - before;
+            x = filled();
         }
-        due("512 times every call", bytes() - before, SLACK_BYTES);
+        due("every call " + TIMES * OBJECTS + " times", taken, SLACK_BYTES);
         System.out.println(wrong == 0 ? "the room is as due" : "the room is not as due");
         if (wrong != 0) {
             System.exit(1);
